@@ -39,13 +39,17 @@ final class Check {
         }
     }
 
-    /** What load answers, as a text: a number or the name of what it throws. */
-    static String load(CircuitProver prover) {
+    /** What a call answers, as a text: a number or the name of what it throws. */
+    static String answer(IntSupplier call) {
         try {
-            return Integer.toString(prover.load());
+            return Integer.toString(call.getAsInt());
         } catch (RuntimeException e) {
             return e.getClass().getSimpleName();
         }
+    }
+
+    static String load(CircuitProver prover) {
+        return answer(prover::load);
     }
 
     static boolean typeAll(CircuitProver prover, String text) {
