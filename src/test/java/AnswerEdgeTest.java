@@ -60,7 +60,7 @@ final class AnswerEdgeTest {
         return sketch.and(low, input[2] ^ ~(value >> 2) & 1);
     }
 
-    /** "The circuit is UNSAFE if a BAD state can be reached from START": START itself in 0 steps. */
+    /** "UNSAFE if a BAD state can be reached from START": START itself in 0 steps. */
     private static void reachedInNoStep() {
         for (int latches = 0; latches <= 6; latches++) {
             int last = (1 << latches) - 1;
@@ -317,7 +317,8 @@ final class AnswerEdgeTest {
             Check.same("size of a negated latch", x.size(2), 1);
         }
         // Latch 0 chooses between latch 1 and latch 2: j = 1 and j = 2 have one each.
-        CircuitProver x = Check.loaded("aag 6 0 3 1 3\n2 2\n4 4\n6 6\n13\n8 2 5\n10 3 7\n12 9 11\n");
+        CircuitProver x = Check.loaded(
+                "aag 6 0 3 1 3\n2 2\n4 4\n6 6\n13\n8 2 5\n10 3 7\n12 9 11\n");
         Check.same("size of a choice", x.size(2), 3);
         Check.same("count of a choice", x.count(2), 4);
     }

@@ -246,7 +246,7 @@ final class LiteralEdgeTest {
         Loads.notSmall(full(4, 7, 21));
     }
 
-    /** "IllegalArgumentException if it is no circuit; UnsupportedOperationException if it is one". */
+    /** "if it is no circuit; UnsupportedOperationException if it is one, but not SMALL". */
     private static void noCircuitComesFirst() {
         String[] big = {inputs(4), latches(7), outputs(0), outputs(2), gates(21), full(4, 7, 21)};
         for (String text : big) {

@@ -98,7 +98,7 @@ final class StateEdgeTest {
         Check.same("after all of them", Picture.of(x), picture);
     }
 
-    /** "latch j (in the order of their lines, from 0) is bit j", "The state of all first values". */
+    /** "latch j (in the order of their lines, from 0) is bit j", also of START. */
     private static void startOfEachLatch() {
         for (int start = 0; start < 64; start++) {
             Check.same("START", Check.loaded(text(6, 0, start)).circuit(5), start);
