@@ -1,7 +1,8 @@
 /**
  * Reads a circuit of inputs, latches and gates from its text and finds out whether its output can
  * ever be 1: either with the shortest way there, or with a set of states that holds at the
- * beginning, is never left, and never has the output 1.
+ * beginning, is never left, and never has the output 1, grown by pieces that say no more than is
+ * needed.
  *
  * <p>A small circuit has at most 64 states, so a set of states is one long: bit s is state s.
  */

@@ -36,7 +36,8 @@ final class AnswerTest {
     }
 
     private static void inputsAndStates() {
-        // Latch 0 takes input 1, latch 1 takes the negated latch 0; the gate lines stand upside down.
+        // Latch 0 takes input 1, latch 1 takes the negated latch 0; the gate lines stand upside
+        // down.
         CircuitProver x = Check.loaded("aag 6 2 2 1 2\n2\n4\n6 4\n8 7 1\n12\n12 10 6\n10 8 2\n");
         for (int state = 0; state < 4; state++) {
             for (int input = 0; input < 4; input++) {

@@ -2,19 +2,14 @@ import java.util.function.IntSupplier;
 
 /** What the tests share: typing a text, telling what a call throws, and counting wrong answers. */
 final class Check {
+    private static final int MOST_SHOWN = 50;
     private static int wrong = 0;
     private static int asked = 0;
 
     private Check() {}
 
     static void same(String what, long got, long due) {
-        asked++;
-        if (got != due) {
-            wrong++;
-            if (wrong <= 50) {
-                System.out.println(what + " answered " + got + ", due is " + due);
-            }
-        }
+        same(what, Long.toString(got), Long.toString(due));
     }
 
     static void same(String what, boolean got, boolean due) {
@@ -25,7 +20,9 @@ final class Check {
         asked++;
         if (!got.equals(due)) {
             wrong++;
-            System.out.println(what + " was " + got + ", due is " + due);
+            if (wrong <= MOST_SHOWN) {
+                System.out.println(what + " answered " + got + ", due is " + due);
+            }
         }
     }
 

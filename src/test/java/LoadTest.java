@@ -187,7 +187,8 @@ final class LoadTest {
     }
 
     private static void theHeader() {
-        CircuitProver x = Check.loaded("aag 9 2 3 1 2\n2\n18\n4 6 1\n6 8 0\n8 5 1\n16\n10 4 3\n16 6 10\n");
+        CircuitProver x = Check.loaded(
+                "aag 9 2 3 1 2\n2\n18\n4 6 1\n6 8 0\n8 5 1\n16\n10 4 3\n16 6 10\n");
         int[] due = {9, 2, 3, 1, 2, 5, -1};
         for (int w = 0; w < due.length; w++) {
             Check.same("circuit(" + w + ")", x.circuit(w), due[w]);
